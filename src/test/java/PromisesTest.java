@@ -21,6 +21,7 @@ public final class PromisesTest {
         mixDarken();
         mixGrey();
         mixTwice();
+        mixToTheLastUnit();
         mixRefused();
         copy();
         extend();
@@ -172,21 +173,21 @@ public final class PromisesTest {
 
     // Promise 6
     private static void shrinkAcross() {
-        // (1 + 2 + 0) >> 1, (3 + 4 + 1) >> 1, (254 + 255 + 0) >> 1, (9 + 9 + 1) >> 1
-        shrinks("shrink across", new int[][] {{1, 2, 3, 4, 254, 255, 9}, {0, 1, 0, 1, 0, 1, 8}}, 0,
-                new int[][] {{1, 4, 254, 9}, {0, 1, 0, 8}});
+        // (1 + 4 + 0) >> 1, (3 + 4 + 1) >> 1, (254 + 255 + 0) >> 1, (9 + 9 + 1) >> 1
+        shrinks("shrink across", new int[][] {{1, 4, 3, 4, 254, 255, 9}, {0, 1, 0, 1, 0, 1, 8}}, 0,
+                new int[][] {{2, 4, 254, 9}, {0, 1, 0, 8}});
         shrinks("shrink one across", new int[][] {{5}, {6}}, 0, new int[][] {{5}, {6}});
     }
 
     private static void shrinkDown() {
-        shrinks("shrink down", new int[][] {{1, 0}, {2, 1}, {3, 0}, {4, 1}, {255, 7}}, 1,
-                new int[][] {{1, 0}, {4, 1}, {255, 7}});
+        shrinks("shrink down", new int[][] {{1, 0}, {4, 1}, {3, 0}, {4, 1}, {255, 7}}, 1,
+                new int[][] {{2, 0}, {4, 1}, {255, 7}});
         shrinks("shrink one down", new int[][] {{5, 6}}, 1, new int[][] {{5, 6}});
     }
 
     private static void shrinkBoth() {
         // The sums are 6 and 6 above, + 1 and + 2; below, the last row is taken twice: 14 and 34.
-        shrinks("shrink both", new int[][] {{1, 2, 0, 1}, {1, 2, 2, 3}, {3, 4, 9, 8}}, 2,
+        shrinks("shrink both", new int[][] {{0, 2, 0, 1}, {2, 2, 2, 3}, {3, 4, 9, 8}}, 2,
                 new int[][] {{1, 2}, {3, 9}});
         // 10 10 / 11 11 + 1 is 43; 6 6 / 6 6 + 1 is 25.
         shrinks("shrink both, odd", new int[][] {{10}, {11}, {6}}, 2, new int[][] {{10}, {6}});
@@ -251,6 +252,32 @@ public final class PromisesTest {
         mixes(5, new int[] {76, 85, 255, 9}, new int[] {1, 255, 255, 9});
         mixes(6, new int[] {0, 255, 255, 9}, new int[] {76, 85, 255, 9});
         mixes(6, new int[] {255, 255, 0, 9}, new int[] {29, 255, 107, 9});
+    }
+
+    // Colours at which a weight that is greater or less by one would be seen: mix, a, b, c, plane, due.
+    private static void mixToTheLastUnit() {
+        int[][] table = {
+            {0, 247, 100, 173, 1, 224}, {0, 254, 220, 251, 1, 134}, {0, 235, 78, 178, 1, 217},
+            {0, 250, 188, 167, 1, 201}, {0, 254, 3, 127, 2, 32},
+            {1, 253, 124, 62, 0, 156}, {1, 253, 171, 241, 0, 203}, {1, 251, 96, 150, 0, 149},
+            {1, 251, 150, 100, 0, 174}, {1, 251, 49, 85, 0, 114}, {1, 251, 95, 199, 0, 153},
+            {1, 6, 58, 190, 0, 58}, {1, 3, 65, 232, 0, 65},
+            {1, 253, 173, 149, 1, 103}, {1, 248, 248, 69, 1, 38}, {1, 253, 173, 5, 1, 31},
+            {1, 252, 252, 167, 1, 85}, {1, 254, 94, 175, 1, 142}, {1, 248, 248, 119, 1, 63},
+            {1, 250, 250, 77, 1, 41},
+            {1, 251, 132, 9, 2, 198}, {1, 254, 234, 191, 2, 141}, {1, 252, 135, 12, 2, 197},
+            {1, 252, 230, 187, 2, 142}, {1, 252, 12, 178, 2, 235}, {1, 251, 102, 225, 2, 192},
+            {1, 250, 77, 77, 2, 214},
+            {4, 6, 58, 190, 0, 58}, {4, 3, 65, 232, 1, 65}, {4, 253, 124, 62, 2, 156},
+        };
+        for (int[] line : table) {
+            CountedMixer t = new CountedMixer();
+            for (int p = 0; p < 3; p++) {
+                t.put(p, 0, 0, line[1 + p]);
+            }
+            CHECKS.due("mix " + line[0], true, t.mix(line[0]));
+            CHECKS.due("mix " + line[0] + " of " + line[1] + " " + line[2] + " " + line[3], line[5], t.at(line[4], 0, 0));
+        }
     }
 
     private static void mixRefused() {
