@@ -256,7 +256,7 @@ public final class PromisesTest {
 
     // Colours at which a weight that is greater or less by one would be seen: mix, a, b, c, plane, due.
     // They and their answers come from a search through all colours by a program apart, with the
-    // document's sums typed anew; weights of OPEN that are missing here showed no such colour.
+    // document's sums typed anew; the weights of OPEN and CLOSE that are missing showed no such colour.
     private static void mixToTheLastUnit() {
         int[][] table = {
             {0, 247, 100, 173, 1, 224}, {0, 254, 220, 251, 1, 134}, {0, 235, 78, 178, 1, 217},
