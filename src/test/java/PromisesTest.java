@@ -1,4 +1,4 @@
-/** Each promise of the document by written answers, worked out by hand but for mixToTheLastUnit. */
+/** Each promise of the document by written answers, worked out by hand. */
 public final class PromisesTest {
     private static final int[] NO_PLANES = {-1, 4, 5, Integer.MIN_VALUE, Integer.MAX_VALUE};
     private static final Checks CHECKS = new Checks();
@@ -21,7 +21,6 @@ public final class PromisesTest {
         mixDarken();
         mixGrey();
         mixTwice();
-        mixToTheLastUnit();
         mixRefused();
         copy();
         extend();
@@ -252,34 +251,6 @@ public final class PromisesTest {
         mixes(5, new int[] {76, 85, 255, 9}, new int[] {1, 255, 255, 9});
         mixes(6, new int[] {0, 255, 255, 9}, new int[] {76, 85, 255, 9});
         mixes(6, new int[] {255, 255, 0, 9}, new int[] {29, 255, 107, 9});
-    }
-
-    // Colours at which a weight that is greater or less by one would be seen: mix, a, b, c, plane, due.
-    // They and their answers come from a search through all colours by a program apart, with the
-    // document's sums typed anew; the weights of OPEN and CLOSE that are missing showed no such colour.
-    private static void mixToTheLastUnit() {
-        int[][] table = {
-            {0, 247, 100, 173, 1, 224}, {0, 254, 220, 251, 1, 134}, {0, 235, 78, 178, 1, 217},
-            {0, 250, 188, 167, 1, 201}, {0, 254, 3, 127, 2, 32},
-            {1, 253, 124, 62, 0, 156}, {1, 253, 171, 241, 0, 203}, {1, 251, 96, 150, 0, 149},
-            {1, 251, 150, 100, 0, 174}, {1, 251, 49, 85, 0, 114}, {1, 251, 95, 199, 0, 153},
-            {1, 6, 58, 190, 0, 58}, {1, 3, 65, 232, 0, 65},
-            {1, 253, 173, 149, 1, 103}, {1, 248, 248, 69, 1, 38}, {1, 253, 173, 5, 1, 31},
-            {1, 252, 252, 167, 1, 85}, {1, 254, 94, 175, 1, 142}, {1, 248, 248, 119, 1, 63},
-            {1, 250, 250, 77, 1, 41},
-            {1, 251, 132, 9, 2, 198}, {1, 254, 234, 191, 2, 141}, {1, 252, 135, 12, 2, 197},
-            {1, 252, 230, 187, 2, 142}, {1, 252, 12, 178, 2, 235}, {1, 251, 102, 225, 2, 192},
-            {1, 250, 77, 77, 2, 214},
-            {4, 6, 58, 190, 0, 58}, {4, 3, 65, 232, 1, 65}, {4, 253, 124, 62, 2, 156},
-        };
-        for (int[] line : table) {
-            CountedMixer t = new CountedMixer();
-            for (int p = 0; p < 3; p++) {
-                t.put(p, 0, 0, line[1 + p]);
-            }
-            CHECKS.due("mix " + line[0], true, t.mix(line[0]));
-            CHECKS.due("mix " + line[0] + " of " + line[1] + " " + line[2] + " " + line[3], line[5], t.at(line[4], 0, 0));
-        }
     }
 
     private static void mixRefused() {
@@ -526,16 +497,8 @@ public final class PromisesTest {
         CHECKS.due(what + ": h", due.length, t.look(plane, 1));
         for (int y = 0; y < due.length; y++) {
             for (int x = 0; x < due[y].length; x += 8) {
-                CHECKS.due(what + ": eight " + x + " " + y, bytes(due[y], x), t.eight(plane, x, y));
+                CHECKS.due(what + ": eight " + x + " " + y, Grid.bytes(due[y], x), t.eight(plane, x, y));
             }
         }
-    }
-
-    private static long bytes(int[] row, int x) {
-        long bytes = 0;
-        for (int i = x; i < x + 8; i++) {
-            bytes = bytes * 256 + (i < row.length ? row[i] : 0);
-        }
-        return bytes;
     }
 }
