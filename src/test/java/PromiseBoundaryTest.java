@@ -198,7 +198,8 @@ public final class PromiseBoundaryTest {
 
     private static void growHow() {
         S.sentence("Promise 5", "GROWS across (how 0, 1), down (2, 3), both, across first (4, 5); "
-                + "by boxes if how is even, else by triangles: true; false if how is none, or the plane would be too large.");
+                + "by boxes if how is even, else by triangles: true; "
+                + "false if how is none, or the plane would be too large.");
         int[][] old = {{0, 1}, {2, 19}};
         int[][][] due = {
             {{0, 0, 1, 1}, {2, 2, 19, 19}},

@@ -1,9 +1,9 @@
 /**
  * "What it is", "The public face" and "Terms": beside each sentence that names a boundary, a case just
- * inside it, one at it and one just outside it. Answers in tables are worked out by hand, but for colours whose
- * sums lie near a multiple of 65536: they and their answers come from a search through all colours by
- * a program apart, with the document's sums typed anew. The weights of OPEN and CLOSE for which there
- * is none showed no such colour.
+ * inside it, one at it and one just outside it. Answers in tables are worked out by hand, but for
+ * colours whose sums lie near a multiple of 65536: they and their answers come from a search through
+ * all colours by a program apart, with the document's sums typed anew. The weights of OPEN and CLOSE
+ * for which there is none showed no such colour.
  */
 public final class TermsBoundaryTest {
     private static final int MANY = CountedMixer.MOST;
@@ -52,13 +52,13 @@ public final class TermsBoundaryTest {
         lastTwo("row", t -> t.row(0, 0, 1, 0x0102030405060708L), t -> t.eight(0, 0, 1), 0x0102L << 48);
         lastTwo("grow", t -> t.grow(0, 0), t -> t.look(0, 0), 4);
         lastTwo("shrink", t -> t.shrink(0, 0), t -> t.look(0, 0), 1);
-        lastTwo("mix", t -> t.mix(2), t -> t.look(0, 4), 0);
+        lastTwo("mix", t -> t.mix(2), t -> t.look(0, 3), 246);
         lastTwo("copy", t -> t.copy(0, 3), t -> t.apart(0, 3), 0);
         lastTwo("extend", t -> t.extend(0, 32, 32), t -> t.look(0, 0), 32);
         lastTwo("cut", t -> t.cut(0, 1, 2), t -> t.look(0, 0), 1);
         lastTwo("grow last", t -> t.look(0, 0), t -> t.grow(0, 4) ? 1 : 0, 1);
         lastTwo("shrink last", t -> t.look(0, 0), t -> t.shrink(0, 2) ? 1 : 0, 1);
-        lastTwo("mix last", t -> t.copy(0, 1), t -> t.mix(3) ? 1 : 0, 0);
+        lastTwo("mix last", t -> t.look(0, 0), t -> t.mix(3) ? 1 : 0, 1);
         lastTwo("extend last", t -> t.look(0, 0), t -> t.extend(0, 2, 3) ? 1 : 0, 1);
         lastTwo("cut last", t -> t.look(0, 0), t -> t.cut(0, 1, 1) ? 1 : 0, 1);
     }
@@ -69,7 +69,10 @@ public final class TermsBoundaryTest {
 
     private static void lastTwo(String what, Sentences.Act next, Ask last, long due) {
         CountedMixer t = new CountedMixer();
-        t.size(0, 2, 2);
+        for (int plane = 0; plane < 4; plane++) {
+            t.size(plane, 2, 2);
+        }
+        t.put(0, 0, 0, 9);
         while (t.left() > 2) {
             t.look(0, 2);
         }
@@ -221,7 +224,8 @@ public final class TermsBoundaryTest {
                 new int[][] {new int[due.length], due});
     }
 
-    // Two old samples: the sums of the inner new ones are one below, at, and one above a multiple of 4.
+    // Two old samples and four new ones. In the first three pairs the sum of the third new one is 3, 4,
+    // 5, and in the next three that of the second one: one below, at, and one above a multiple of 4.
     private static final int[][][] PAIRS = {
         {{2, 0}, {2, 2, 0, 0}}, {{3, 0}, {3, 2, 1, 0}}, {{4, 0}, {4, 3, 1, 0}},
         {{0, 1}, {0, 0, 1, 1}}, {{0, 2}, {0, 1, 1, 2}}, {{0, 3}, {0, 1, 2, 3}},
